@@ -594,7 +594,8 @@ public final class RadioPair {
     /** What a device has taken, and the message that it puts together from loads. */
     private static final class Inbox {
         final MessageRow taken = new MessageRow(TAKEN_BYTES);
-        final Message partial = new Message(TAKEN_BYTES);
+        // A load can bring more bytes than are due, and that has to show.
+        final Message partial = new Message(TAKEN_BYTES + LOAD_BYTES);
         boolean putsTogether;
         int due;
         int lastTurn;
@@ -613,9 +614,12 @@ public final class RadioPair {
             lastTurn = frame.turn;
             if (frame.begins) {
                 beginMessage(frame.bytes.at(0));
-                gather(frame.bytes, 1);
+                partial.addAll(frame.bytes, 1, frame.bytes.size);
             } else if (putsTogether) {
-                gather(frame.bytes, 0);
+                partial.addAll(frame.bytes, 0, frame.bytes.size);
+            }
+            if (putsTogether && partial.size >= due) {
+                endMessage();
             }
         }
 
@@ -628,23 +632,9 @@ public final class RadioPair {
             due = length;
         }
 
-        private void gather(Message bytes, int start) {
-            // Asked before they are added, as more than is due may be more than there is room for.
-            int size = partial.size + bytes.size - start;
-            if (size > due) {
-                dropped++;
-                putsTogether = false;
-                return;
-            }
-            partial.addAll(bytes, start, bytes.size);
-            if (size == due) {
-                finishMessage();
-            }
-        }
-
-        private void finishMessage() {
+        private void endMessage() {
             putsTogether = false;
-            if (taken.isFull()) {
+            if (partial.size > due || taken.isFull()) {
                 dropped++;
             } else {
                 taken.append(partial);

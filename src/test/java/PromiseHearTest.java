@@ -207,6 +207,24 @@ final class PromiseHearTest {
         CHECK.due("many fewer", forged(false, Wire.load(63 * 4 + 2, 2, 1, 1)).hear(), RadioPair.BAD);
         // Guarded, 48 bits fill five tens: four bytes more than fit.
         CHECK.due("guarded and cut", forged(true, cut).hear(), RadioPair.BAD);
+        CHECK.due("cut where zeros would be", forged(false, endsInZeros().subList(0, 48)).hear(), RadioPair.BAD);
+        // The last four bits of the sixth ten fill it behind 56 bits: no remainder of the load has them.
+        RadioPair x = spoken(true, 7, 9, 1);
+        x.flip(54 + 5 * 15 + 8);
+        x.flip(54 + 5 * 15 + 9);
+        CHECK.due("a fifteen past mending, but for the fill", x.hear(), RadioPair.BAD);
+    }
+
+    /** A load of four bytes whose last eight bits, of the remainder, are zeros. */
+    private static List<Integer> endsInZeros() {
+        for (int b = 0; b < 65536; b++) {
+            List<Integer> load = Wire.load(18, 3, 1, b % 256, b / 256);
+            if (!load.subList(48, 56).contains(1)) {
+                return load;
+            }
+        }
+        CHECK.due("a load that ends in zeros", 0, 1);
+        return Wire.load(18, 3, 1, 1, 1);
     }
 
     private static void bitsBehindAreNotLookedAt() {

@@ -9,7 +9,7 @@ import java.util.TreeSet;
 
 /** The public face of the document, and nothing beside it that others could see. */
 final class FaceTest {
-    private static final Check CHECK = new Check();
+    private static final Check CHECK = new Check("The public face");
 
     private FaceTest() {
     }

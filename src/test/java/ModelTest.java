@@ -27,7 +27,7 @@ final class ModelTest {
     }
 
     public static void main(String[] args) {
-        Check check = new Check();
+        Check check = new Check("Model");
         int[] outcomes = new int[10];
         for (int seed = 0; seed < RUNS && check.allAsDue(); seed++) {
             new ModelTest(seed, check).play(outcomes);

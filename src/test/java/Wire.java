@@ -18,6 +18,15 @@ final class Wire {
         return row;
     }
 
+    /** "0110" as a row. */
+    static List<Integer> row(String bits) {
+        List<Integer> row = new ArrayList<>();
+        for (char bit : bits.toCharArray()) {
+            row.add(bit - '0');
+        }
+        return row;
+    }
+
     static int numberOf(List<Integer> row) {
         int number = 0;
         for (int i = 0; i < row.size(); i++) {
@@ -121,24 +130,5 @@ final class Wire {
         List<Integer> air = headOnAir(head, clock);
         air.addAll(loadOnAir(numberOf(head.subList(3, 7)) == 3, load, clock));
         return air;
-    }
-
-    /** What all bits on the air of x are, asked one by one. */
-    static List<Integer> onAir(RadioPair x) {
-        List<Integer> air = new ArrayList<>();
-        int bits = x.count(1);
-        for (int i = 0; i < bits; i++) {
-            air.add(x.air(i));
-        }
-        return air;
-    }
-
-    /** Turns bits of x over until the air that is known to be `is` begins with `wanted`. */
-    static void forge(RadioPair x, List<Integer> is, List<Integer> wanted) {
-        for (int i = 0; i < wanted.size() && i < is.size(); i++) {
-            if (!is.get(i).equals(wanted.get(i))) {
-                x.flip(i);
-            }
-        }
     }
 }

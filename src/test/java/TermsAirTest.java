@@ -23,6 +23,7 @@ final class TermsAirTest {
         clockOfTheSlotWhitens();
         headIsSentThreeTimes();
         guardedLoadsAreCutIntoTens();
+        fillingBehindALongerFrame();
         plainLoadsAreSentAsTheyAre();
         CHECK.end();
     }
@@ -278,6 +279,24 @@ final class TermsAirTest {
                 }
                 CHECK.same("load of " + n + ", ten " + k, fifteen.subList(0, 10), ten);
                 CHECK.same("load of " + n + ", behind ten " + k, fifteen.subList(10, 15), Wire.rem(ten, 53, 5));
+            }
+        }
+    }
+
+    /** What a longer frame left behind must not show in the filling of the next one. */
+    private static void fillingBehindALongerFrame() {
+        CHECK.sentence("zeros behind to fill the last one;");
+        for (int size = 1; size <= 7; size++) {
+            for (int b : new int[] {0, 15, 85, 170, 240, 255}) {
+                Link x = new Link(4);
+                x.message(0, b, b, b, b, b, b, b, b);
+                x.passes(2);
+                int[] bytes = Link.counting(b / 2, size);
+                x.message(0, bytes);
+                x.slot();
+                List<Integer> want = Wire.frame(Wire.head(4, 3, 1, 0, 0),
+                    Wire.load(4 * size + 6, part(bytes, 0, size + 1)), 2);
+                CHECK.same("a frame of " + (size + 1) + " behind one of nine", x.bits(), want);
             }
         }
     }

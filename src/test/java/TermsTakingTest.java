@@ -302,15 +302,15 @@ final class TermsTakingTest {
         }
     }
 
-    /** A load of four bytes whose last eight bits, of the remainder, are zeros. */
-    private static List<Integer> endsInZeros() {
+    /** A load of four bytes that ends in these bits, a part of its remainder. */
+    private static List<Integer> endsIn(List<Integer> bits) {
         for (int b = 0; b < 65536; b++) {
             List<Integer> load = Wire.load(18, 3, 1, b % 256, b / 256);
-            if (!load.subList(48, 56).contains(1)) {
+            if (load.subList(56 - bits.size(), 56).equals(bits)) {
                 return load;
             }
         }
-        CHECK.due("a load that ends in zeros", 0, 1);
+        CHECK.due("a load that ends in " + bits, 0, 1);
         return Wire.load(18, 3, 1, 1, 1);
     }
 
@@ -318,9 +318,18 @@ final class TermsTakingTest {
         CHECK.sentence("With n the first number / 4 (the number of 8 bits): the load is BAD if there are fewer than "
             + "24 + 8 * n bits,");
         CHECK.due("PLAIN, just as many", forged(false, Wire.load(14, 2, 1, 1)).hear(), RadioPair.TAKEN);
-        // 48 bits are there; the eight that lack would be zeros, as is what lies behind the end of many a row.
-        CHECK.due("PLAIN, eight fewer", forged(false, endsInZeros().subList(0, 48)).hear(), RadioPair.BAD);
-        CHECK.due("GUARDED, 50 bits for 56", forged(true, endsInZeros().subList(0, 48)).hear(), RadioPair.BAD);
+        // What lies behind the end of many a row is zeros, here before or behind the whitening.
+        List<Integer> white = Wire.white(0, 18 + 56);
+        for (int lack : new int[] {8, 6}) {
+            List<Integer> zeros = Wire.number(0, lack);
+            List<Integer> whitened = white.subList(18 + 56 - lack, 18 + 56);
+            for (List<Integer> end : List.of(zeros, whitened)) {
+                // PLAIN has 48 bits; GUARDED has five tens, of which the last two bits are forged too.
+                boolean guarded = lack == 6;
+                List<Integer> cut = endsIn(end).subList(0, 56 - lack);
+                CHECK.due("56 bits asked for, " + lack + " fewer there", forged(guarded, cut).hear(), RadioPair.BAD);
+            }
+        }
         CHECK.due("PLAIN, n is 63", forged(false, Wire.load(63 * 4 + 2, 2, 1, 1)).hear(), RadioPair.BAD);
         CHECK.due("GUARDED, n is 63", forged(true, Wire.load(63 * 4 + 1, 2, 1, 1)).hear(), RadioPair.BAD);
         Link x = spoken(true, 7);
